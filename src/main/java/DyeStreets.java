@@ -36,10 +36,11 @@ public final class DyeStreets {
     private static final int FAULT_LESS = 10;
     private static final int HUGE = 1000000;
 
+    // the order of words in a list is that of the numbers that stand for them
+    private static final String CLAUSE_WORDS = "street person stock river ";
     private static final int STREET = 0;
     private static final int PERSON = 1;
     private static final int STORE = 2;
-    private static final int RIVER = 3;
 
     private static final int SHADE = 0;
     private static final int AGE = 1;
@@ -51,16 +52,19 @@ public final class DyeStreets {
     private static final int YEAR_AT = STOCKS_AT + DYES;
     private static final int TOWN_CELLS = YEAR_AT + 1;
 
+    private static final String LAW_WORDS =
+            "madder indigo weld dark age rank dips year birth least most ";
     private static final int FACTS = 9;
     private static final int FACT = 1000;
     private static final int SIGN = 2000;
-    private static final int PLUS = SIGN;
-    private static final int MINUS = SIGN + 1;
-    private static final int TIMES = SIGN + 2;
-    private static final int OVER = SIGN + 3;
-    private static final int LEAST = SIGN + 4;
-    private static final int MOST = SIGN + 5;
+    private static final int LEAST = SIGN;
+    private static final int MOST = SIGN + 1;
+    private static final int PLUS = SIGN + 2;
+    private static final int MINUS = SIGN + 3;
+    private static final int TIMES = SIGN + 4;
+    private static final int OVER = SIGN + 5;
 
+    private static final String STEP_WORDS = "dip wash salt rain marry year again ";
     private static final int DIP = 0;
     private static final int WASH = 1;
     private static final int SALTING = 2;
@@ -744,7 +748,7 @@ public final class DyeStreets {
         }
 
         boolean takesSign(char sign) {
-            if (failed() || next() != sign) {
+            if (failed() || byteAt(here) != sign) {
                 return false;
             }
             pass(1);
@@ -752,29 +756,41 @@ public final class DyeStreets {
         }
 
         void needSign(char sign) {
-            if (failed() || next() != sign) {
+            if (failed() || byteAt(here) != sign) {
                 fail(FOREIGN, here);
             } else {
                 pass(1);
             }
         }
 
-        boolean takesWord(String word) {
-            int many = word.length();
-            for (int k = 0; k < many; k++) {
-                if (byteAt(here + k) != word.charAt(k)) {
+        /** Which of the words, a blank behind each, comes next, and takes it; NONE, if none does. */
+        int takesWordOf(String words) {
+            int which = 0;
+            int start = 0;
+            for (int k = 0; k < words.length(); k++) {
+                if (words.charAt(k) == ' ') {
+                    if (comesNext(words, start, k)) {
+                        pass(k - start);
+                        return which;
+                    }
+                    which++;
+                    start = k + 1;
+                }
+            }
+            return NONE;
+        }
+
+        private boolean comesNext(String words, int start, int end) {
+            for (int k = start; k >= 0 && k < end && k < words.length(); k++) {
+                if (byteAt(here + k - start) != words.charAt(k)) {
                     return false;
                 }
             }
-            if (failed() || isLetter(byteAt(here + many))) {
-                return false;
-            }
-            pass(many);
-            return true;
+            return !failed() && !isLetter(byteAt(here + end - start));
         }
 
         int needNumber(int most) {
-            if (failed() || !isDigit(next())) {
+            if (failed() || !isDigit(byteAt(here))) {
                 fail(FOREIGN, here);
                 return 0;
             }
@@ -822,7 +838,7 @@ public final class DyeStreets {
         }
 
         private void readClause(Text text, int before) {
-            int kind = kindOf(text);
+            int kind = text.takesWordOf(CLAUSE_WORDS);
             boolean full = before >= MOST_CLAUSES
                     || kind == STREET && streets >= MOST_STREETS
                     || kind == PERSON && people >= MOST_PEOPLE;
@@ -833,19 +849,6 @@ public final class DyeStreets {
             } else {
                 readRest(text, kind);
             }
-        }
-
-        private static int kindOf(Text text) {
-            if (text.takesWord("street")) {
-                return STREET;
-            }
-            if (text.takesWord("person")) {
-                return PERSON;
-            }
-            if (text.takesWord("stock")) {
-                return STORE;
-            }
-            return text.takesWord("river") ? RIVER : NONE;
         }
 
         private void readRest(Text text, int kind) {
@@ -1167,23 +1170,22 @@ public final class DyeStreets {
         private void readUnit(Text text, int open) {
             if (isDigit(text.next())) {
                 write(text.needNumber(FACT - 1));
-            } else if (text.takesSign('(')) {
-                if (isDeepest(text, open)) {
-                    return;
+                return;
+            }
+            if (text.takesSign('(')) {
+                if (!isDeepest(text, open)) {
+                    readSum(text, open + 1);
+                    text.needSign(')');
                 }
-                readSum(text, open + 1);
-                text.needSign(')');
-            } else if (text.takesWord("least")) {
-                readTwo(text, open, LEAST);
-            } else if (text.takesWord("most")) {
-                readTwo(text, open, MOST);
+                return;
+            }
+            int word = text.takesWordOf(LAW_WORDS);
+            if (word == NONE) {
+                text.fail(FOREIGN, text.here);
+            } else if (word < FACTS) {
+                write(FACT + word);
             } else {
-                int fact = factOf(text);
-                if (fact == NONE) {
-                    text.fail(FOREIGN, text.here);
-                } else {
-                    write(FACT + fact);
-                }
+                readTwo(text, open, SIGN + word - FACTS);
             }
         }
 
@@ -1207,34 +1209,6 @@ public final class DyeStreets {
             return true;
         }
 
-        private static int factOf(Text text) {
-            if (text.takesWord("madder")) {
-                return 0;
-            }
-            if (text.takesWord("indigo")) {
-                return 1;
-            }
-            if (text.takesWord("weld")) {
-                return 2;
-            }
-            if (text.takesWord("dark")) {
-                return 3;
-            }
-            if (text.takesWord("age")) {
-                return 4;
-            }
-            if (text.takesWord("rank")) {
-                return 5;
-            }
-            if (text.takesWord("dips")) {
-                return 6;
-            }
-            if (text.takesWord("year")) {
-                return 7;
-            }
-            return text.takesWord("birth") ? 8 : NONE;
-        }
-
         private void write(int entry) {
             put(draft, drafted, entry);
             drafted++;
@@ -1244,6 +1218,7 @@ public final class DyeStreets {
             if (!given) {
                 return darkness(shade) - 9 > 0;
             }
+            // in the order of the law's words
             for (int dye = 0; dye < DYES; dye++) {
                 put(facts, dye, partOf(shade, dye));
             }
@@ -1404,11 +1379,11 @@ public final class DyeStreets {
         }
 
         private void readStep(Text text, City city) {
-            if (text.takesWord("again")) {
+            int kind = text.takesWordOf(STEP_WORDS);
+            if (kind == AGAIN) {
                 readAgain(text);
                 return;
             }
-            int kind = kindOf(text);
             if (kind == NONE) {
                 text.fail(FOREIGN, text.here);
                 return;
@@ -1428,25 +1403,6 @@ public final class DyeStreets {
             }
             text.needSign(';');
             write(kind, first, second);
-        }
-
-        private static int kindOf(Text text) {
-            if (text.takesWord("dip")) {
-                return DIP;
-            }
-            if (text.takesWord("wash")) {
-                return WASH;
-            }
-            if (text.takesWord("salt")) {
-                return SALTING;
-            }
-            if (text.takesWord("rain")) {
-                return RAIN;
-            }
-            if (text.takesWord("marry")) {
-                return MARRY;
-            }
-            return text.takesWord("year") ? YEAR : NONE;
         }
 
         private void readAgain(Text text) {
