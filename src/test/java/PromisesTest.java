@@ -183,6 +183,7 @@ public final class PromisesTest {
         Check.is("city once more", Check.city(x, TOWN), 4);
         Check.is("law is gone", x.told(3), 0);
         Check.is("book is gone", x.told(6), 0);
+        Check.is("book is gone: all fit", x.fits(0), 6);
         Check.is("images are gone", x.count(0), 0);
         Check.is("works are gone", x.count(2), 0);
         Check.is("nothing to undo", x.undo(), -1);
@@ -271,6 +272,12 @@ public final class PromisesTest {
         lawFault("dark+", 1, 5);
         lawFault("dark + ", 1, 7);
         lawFault("darks", 1, 0);
+        lawFault("darka", 1, 0);
+        lawFault("darkz", 1, 0);
+        lawFault("dar", 1, 0);
+        lawFault("dark`", 1, 4);
+        lawFault("dark{", 1, 4);
+        lawFault("1:", 1, 1);
         lawFault("Dark", 1, 0);
         lawFault("-1", 1, 0);
         lawFault("1 2", 1, 2);
@@ -322,6 +329,8 @@ public final class PromisesTest {
         Check.law(x, "rank-6");
         Check.is("rank by what one seems of", x.sits(0, 1) * 10 + x.sits(1, 1), 11);
         Check.is("rank of a white one", x.sits(3, 1), 0);
+        Check.law(x, "birth-1");
+        Check.is("birth is 1", x.told(3), 0);
         Check.law(x, "birth");
         Check.is("birth: of another street", x.person(0, 7), 0);
         Check.is("birth: of his street", x.person(1, 7), 1);
@@ -415,6 +424,7 @@ public final class PromisesTest {
         Check.is("less in stock: refused", x.told(7), 1);
         Check.is("just as much", Check.work(x, "dip 2 2;dip 3 2;"), 1);
         Check.is("just as much: left", x.stock(1), 1);
+        lacking();
         washing();
         salting();
         raining();
@@ -422,7 +432,23 @@ public final class PromisesTest {
         fading();
     }
 
+    private static void lacking() {
+        String city = "street 4 0 0 0;street 0 4 0 0;street 0 0 4 0;person 0 1;stock %d 3;";
+        for (int dye = 0; dye < 3; dye++) {
+            DyeStreets x = Check.of(city.replace("%d", String.valueOf(dye)));
+            Check.is("one dye lacks", Check.work(x, "dip 0 0;dip 0 1;dip 0 2;"), 2);
+            Check.is("one dye lacks: shade", x.person(0, 2), dye == 0 ? 44 : dye == 1 ? 404 : 440);
+            Check.is("nothing is gone", x.stock(dye), 3);
+            Check.is("a river of 5", Check.work(x, "year;wash 0;wash 0;wash 0;wash 0;"), 5);
+            Check.is("8 for two dips", Check.work(x, "dip 0 DD;dip 0 DD;dip 0 DD;".replace("DD", String.valueOf(dye))), 2);
+            Check.is("just as much as there is", x.stock(dye), 0);
+        }
+    }
+
     private static void washing() {
+        DyeStreets y = Check.of("street 3 4 5 0;person 0 1;");
+        Check.is("wash once", Check.work(y, "dip 0 0;wash 0;"), 2);
+        Check.is("wash once: shade", y.person(0, 2), 234);
         DyeStreets x = Check.of(TOWN);
         Check.is("wash", Check.work(x, "dip 0 0;dip 0 1;salt 0;wash 0;"), 4);
         Check.is("1 less of each", x.person(0, 2), 230);
@@ -505,6 +531,7 @@ public final class PromisesTest {
         Check.is("agains one behind the other",
                 Check.work(x, "again 2[year;again 2[salt 1;];year;];again 3[wash 1;];"), 6);
         Check.is("agains one behind the other: refused", x.told(7), 5);
+        Check.is("as many agains as there is room for", Check.work(x, "again0[];".repeat(16) + "year;"), 1);
         Check.is("an again of 0 is passed by", Check.work(x, "again 0[again 3[year;];year;];salt 2;"), 1);
     }
 
@@ -834,6 +861,9 @@ public final class PromisesTest {
         wayIs(x, 0, 622, 2, 2, 5);
         wayIs(x, 89, 899, 2, 2, 3, 5);
         wayIs(x, 999, 999);
+        wayIs(Check.of("street 1 0 0 0;street 2 0 0 0;"), 0, 500, 0, 1, 1);
+        wayIs(Check.of("street 2 0 0 0;street 1 0 0 0;"), 0, 500, 0, 0, 1);
+        wayIs(Check.of("street 9 0 0 0;street 4 4 0 0;street 0 9 0 0;"), 0, 990, 0, 2);
         Check.is("no way down", x.way(100, 0), -1);
         Check.is("no way down: step", x.step(100, 0, 0), -1);
         Check.is("no way", x.way(0, 10), -1);
@@ -862,6 +892,12 @@ public final class PromisesTest {
         Check.is("fewest 155", x.sums(155, 1), 2);
         Check.is("nothing beyond 9", x.sums(199, 0), 0);
         Check.is("nothing beyond 9: fewest", x.sums(199, 1), -1);
+        DyeStreets z = Check.of("street 0 0 1 0;street 0 1 0 0;");
+        Check.is("a vat of 1", z.sums(9, 0), 1);
+        Check.is("a vat of 1: fewest", z.sums(99, 1), 18);
+        Check.is("ten of weld are not one of indigo", z.sums(10, 0), 1);
+        Check.is("ten of indigo are not one of madder", z.sums(100, 0), 0);
+        Check.is("ten of weld alone", Check.of("street 0 0 1 0;").sums(10, 0), 0);
         DyeStreets y = Check.of("street 1 1 1 0;".repeat(6));
         Check.is("six alike vats", y.sums(999, 0), 2002);
         Check.is("six alike vats: fewest", y.sums(999, 1), 9);
@@ -926,6 +962,13 @@ public final class PromisesTest {
         Check.work(y, "dip 0 0;dip 1 1;dip 2 2;dip 2 2;");
         Check.is("the fewest: weld", y.look(0), 2);
         Check.is("the fewest: 3", y.look(1), 3);
+        DyeStreets z = Check.of("street 9 9 9 0;street 0 0 8 0;person 0 1;person 0 1;person 0 1;stock 2 27;");
+        Check.work(z, "dip 0 0;dip 1 0;dip 2 1;");
+        Check.is("all by 9: three of madder, three of indigo, three of weld", z.look(1), 3);
+        Check.book(z, "0 9;1 9;");
+        Check.is("left by 9", z.look(1), 3);
+        Check.book(z, "2 8;");
+        Check.is("left by 9 or 0", z.look(1), 2);
         Check.illegal("look 2", () -> x.look(2));
         Check.illegal("look -1", () -> x.look(-1));
     }
@@ -1000,6 +1043,8 @@ public final class PromisesTest {
         Check.is("six streets", Check.of("street 9 9 9 0;".repeat(6)).enough(63), 1);
         DyeStreets y = Check.of("street 9 9 9 0;".repeat(6) + "stock 1 0;river 0;");
         Check.is("no river", y.enough(32), -1);
+        Check.is("no madder", Check.of("street 1 0 0 0;stock 0 0;river 0;").enough(1), -1);
+        Check.is("no weld", Check.of("street 0 0 1 0;stock 2 0;river 0;").enough(1), -1);
         Check.illegal("enough 64", () -> y.enough(64));
         DyeStreets z = Check.of("street 0 0 1 0;stock 2 0;river 1;");
         Check.is("in a year", z.enough(1), 1);
@@ -1074,6 +1119,11 @@ public final class PromisesTest {
         Check.is("both in one street: neither", u.guilds(2), 0);
         Check.is("one street", Check.of("street 1 1 1 1;person 0 1;").guilds(0), 1);
         Check.is("no streets", new DyeStreets().guilds(1), -1);
+        Check.is("no streets: both", new DyeStreets().guilds(2), 0);
+        DyeStreets w = Check.of("street 9 9 9 0;street 9 9 8 0;street 1 0 0 0;street 0 1 0 0;person 0 1;person 0 1;");
+        Check.work(w, "dip 0 2;dip 1 3;");
+        Check.is("the first is 10 times the one's street", w.guilds(1), 23);
+        Check.is("the first: both", w.guilds(2), 2);
         DyeStreets v = Check.of("street 1 0 0 0;street 3 0 0 0;person 0 1;person 0 1;");
         Check.work(v, "dip 0 0;dip 1 1;");
         Check.is("each its own", v.guilds(0), 2);
@@ -1103,8 +1153,34 @@ public final class PromisesTest {
         Check.is("nobody", new DyeStreets().ahead(5, 1), 0);
     }
 
-    /** The seed's numbers: 1 becomes 1103527590, then 2524885223, 662824084, 3295386010. */
+    /**
+     * Seed 1 draws 16838, 5758, 10113, 17515, 31051, 5627, 23010, 7419, 16212: the sky has 6, 11, 2;
+     * 2 is dipped in 0, 3 in 2 and then in 0: 200 and 511 are left.
+     */
+    private static void drawn() {
+        DyeStreets x = Check.of(TOWN);
+        Check.is("three dips", x.ages(1, 0, 3, 1), 3);
+        Check.is("three shades", x.ages(1, 2, 3, 3), 3);
+        Check.is("rain below 7", x.ages(1, 7, 3, 2), 2);
+        Check.is("rain below 6", x.ages(1, 6, 3, 2), 1);
+        Check.is("rain below 2", x.ages(1, 2, 3, 2), 0);
+        Check.is("rain levels", x.ages(1, 3, 3, 3), 2);
+        String[] laws = {"1-(dark-7)*(dark-7)", "1-(madder-2)*(madder-2)", "indigo*weld", "dips-1", "madder-4",
+            "madder-5", "year-2", "year-3", "age-32", "rank-2", "birth"};
+        int[] due = {1, 1, 1, 1, 1, 0, 4, 0, 1, 4, 1};
+        for (int k = 0; k < laws.length; k++) {
+            Check.law(x, laws[k]);
+            Check.is("drawn: " + laws[k], x.ages(1, 0, 3, 0), due[k]);
+        }
+        DyeStreets y = Check.of("street 1 0 0 0;person 0 1;");
+        Check.is("one of each: 9 are left behind 32 fadings", y.ages(1, 16, 96, 1), 41);
+        Check.is("one of each: no rain", y.ages(1, 16, 96, 2), 0);
+        DyeStreets z = Check.of("street 1 0 0 0;person 0 1;stock 0 2;river 0;");
+        Check.is("no more in stock", z.ages(1, 16, 96, 1), 2);
+    }
+
     private static void ages() {
+        drawn();
         DyeStreets x = Check.of(TOWN);
         Check.is("a dip", x.ages(1, 0, 1, 1), 1);
         Check.is("no rain", x.ages(1, 0, 1, 2), 0);
@@ -1154,6 +1230,18 @@ public final class PromisesTest {
         Check.illegal("span, 3", () -> x.span(1, 1, 0, 1, 3));
         Check.illegal("span, -1", () -> x.span(1, 1, 0, 1, -1));
         Check.is("nobody: fewest", new DyeStreets().span(1, 20, 8, 96, 0), 0);
+        Check.is("nobody: most", new DyeStreets().span(1, 20, 16, 96, 1), 0);
+        Check.law(x, "0");
+        Check.is("nobody may sit", x.span(1, 20, 16, 9, 2), 20);
+        Check.law(x, "1");
+        Check.is("all may sit", x.span(1, 20, 16, 9, 2), 0);
+        Check.law(x, "dips-2");
+        int none = x.ages(5, 0, 5, 0) == 0 ? 1 : 0;
+        for (int many = 2; many <= 20; many++) {
+            none += x.ages(4 + many, 0, 5, 0) == 0 ? 1 : 0;
+            Check.is("seeds 5 and on: " + many, x.span(5, many, 0, 5, 2), none);
+        }
+        Check.is("some, not all", none > 2 && none < 18 ? 1 : 0, 1);
     }
 
     // ---- 36 to 39
