@@ -892,6 +892,10 @@ public final class PromisesTest {
         Check.is("fewest 155", x.sums(155, 1), 2);
         Check.is("nothing beyond 9", x.sums(199, 0), 0);
         Check.is("nothing beyond 9: fewest", x.sums(199, 1), -1);
+        DyeStreets w = Check.of("street 1 0 0 0;street 2 0 0 0;street 4 0 0 0;");
+        Check.is("fewest 200", w.sums(200, 1), 1);
+        Check.is("fewest 300", w.sums(300, 1), 2);
+        Check.is("fewest 700", w.sums(700, 1), 3);
         DyeStreets z = Check.of("street 0 0 1 0;street 0 1 0 0;");
         Check.is("a vat of 1", z.sums(9, 0), 1);
         Check.is("a vat of 1: fewest", z.sums(99, 1), 18);
@@ -1246,7 +1250,31 @@ public final class PromisesTest {
 
     // ---- 36 to 39
 
+    private static void worksOfImages() {
+        DyeStreets x = Check.of(TOWN);
+        Check.work(x, "dip 0 0;");
+        Check.work(x, "dip 1 1;");
+        Check.work(x, "year;");
+        x.image();
+        x.undo();
+        x.undo();
+        x.undo();
+        Check.work(x, "dip 3 2;");
+        Check.work(x, "salt 3;");
+        x.image();
+        Check.is("the other works", x.undo() + x.undo(), 1);
+        Check.is("restore: one left", x.restore(), 1);
+        Check.is("two works", x.count(2), 2);
+        Check.is("restore: none left", x.restore(), 0);
+        Check.is("the works of the image", x.undo(), 2);
+        Check.is("before the year", x.told(2) * 1000 + x.person(1, 2), 41);
+        Check.is("the works of the image", x.undo(), 1);
+        Check.is("before the second dip", x.person(0, 2) * 1000 + x.person(1, 2), 300000);
+        Check.is("never in the image", x.person(3, 2), 0);
+    }
+
     private static void images() {
+        worksOfImages();
         DyeStreets x = Check.of(TOWN);
         Check.is("nothing to restore", x.restore(), -1);
         Check.work(x, "dip 0 0;");
