@@ -1251,9 +1251,9 @@ public final class DyeStreets {
                 case PLUS: return a + b;
                 case MINUS: return a - b;
                 case TIMES: return a * b;
-                case OVER: return b == 0 ? 0 : a / b;
                 case LEAST: return Math.min(a, b);
-                default: return Math.max(a, b);
+                case MOST: return Math.max(a, b);
+                default: return b == 0 ? 0 : a / b;
             }
         }
     }
