@@ -4,6 +4,7 @@ import java.util.NoSuchElementException;
 final class Check {
     private static int asked = 0;
     private static int wrong = 0;
+    private static String now = "";
 
     private Check() {
     }
@@ -12,12 +13,32 @@ final class Check {
         long answer();
     }
 
+    /** What is checked from now on is named ahead of each line that is printed. */
+    static void begin(String name) {
+        now = name + ": ";
+    }
+
     static void is(String what, long got, long due) {
         asked++;
         if (got != due) {
-            wrong++;
-            System.out.println(what + " answered " + got + ", due is " + due);
+            wrong(what + " answered " + got + ", due is " + due);
         }
+    }
+
+    static void is(String what, boolean got, boolean due) {
+        is(what, got ? 1 : 0, due ? 1 : 0);
+    }
+
+    static void same(String what, String got, String due) {
+        asked++;
+        if (!got.equals(due)) {
+            wrong(what + ": it is\n  " + got + "\n  due is\n  " + due);
+        }
+    }
+
+    static void wrong(String line) {
+        wrong++;
+        System.out.println(now + line);
     }
 
     static void illegal(String what, Call call) {
@@ -78,10 +99,32 @@ final class Check {
     static DyeStreets of(String city) {
         DyeStreets x = new DyeStreets();
         if (city(x, city) < 0) {
-            wrong++;
-            System.out.println("no city: " + city);
+            wrong("no city: " + city);
         }
         return x;
+    }
+
+    /** All that can be told of what is there but refusals and faults, in some 70 calls. */
+    static String all(DyeStreets x) {
+        StringBuilder all = new StringBuilder("told");
+        for (int what = 0; what <= 9; what++) {
+            all.append(' ').append(x.told(what));
+        }
+        for (int s = 0; s < x.told(0); s++) {
+            all.append(" street");
+            for (int what = 0; what <= 3; what++) {
+                all.append(' ').append(x.street(s, what));
+            }
+        }
+        for (int p = 0; p < x.told(1); p++) {
+            all.append(" person");
+            for (int what = 0; what <= 7; what++) {
+                all.append(' ').append(x.person(p, what));
+            }
+        }
+        all.append(" stock ").append(x.stock(0)).append(' ').append(x.stock(1)).append(' ').append(x.stock(2));
+        all.append(" count ").append(x.count(0)).append(' ').append(x.count(1)).append(' ').append(x.count(2));
+        return all.append(" book ").append(x.fits(0)).append(' ').append(x.look(0)).toString();
     }
 
     static void end(String name) {

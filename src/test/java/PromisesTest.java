@@ -1,59 +1,14 @@
-/** Of each promise: ordinary inputs, the edges that the document names, wrong inputs. */
+/** Of each promise: ordinary inputs, with answers worked out by hand; the Bounds tests have the edges. */
 public final class PromisesTest {
-    /** Madder, indigo and a mixed vat; four people; little indigo in stock; a river of 2. */
-    private static final String TOWN = "street 3 0 0 5;street 0 4 1 7;street 2 2 2 2;"
-            + "person 0 10;person 1 20;person 1 30;person 2 0;stock 1 9;river 2;";
+    private static final String TOWN = Telling.TOWN;
 
-    public static void main(String[] args) {
-        newObject();
-        feeding();
-        cityTexts();
-        cityFaults();
-        cityStarts();
-        lawTexts();
-        lawFaults();
-        lawFacts();
-        workTexts();
-        workFaults();
-        workSteps();
-        workLoops();
-        workLimit();
-        bookTexts();
-        faultPlaces();
-        undoing();
-        telling();
-        streets();
-        people();
-        stocks();
-        woulds();
-        distances();
-        seemings();
-        dippings();
-        cousins();
-        whens();
-        sittings();
-        ways();
-        sums();
-        tones();
-        fits();
-        looks();
-        matches();
-        enoughs();
-        levels();
-        nights();
-        guilds();
-        aheads();
-        ages();
-        spans();
-        images();
-        statuses();
-        counts();
-        Check.end("PromisesTest");
+    public static void main(String[] args) throws IllegalAccessException {
+        Cases.run(PromisesTest.class, 1, 39);
     }
 
     // ---- 1 to 3
 
-    private static void newObject() {
+    static void p01_newObject() {
         DyeStreets x = new DyeStreets();
         Check.is("NONE", DyeStreets.NONE, -1);
         for (int what = 0; what <= 8; what++) {
@@ -67,12 +22,11 @@ public final class PromisesTest {
         Check.is("new: no street", x.seems(0), -1);
         Check.is("new: law is dark - 9", x.would(333, 0, 0, 0, 0, 0) ? 1 : 0, 0);
         Check.is("new: law is dark - 9", x.would(334, 0, 0, 0, 0, 0) ? 1 : 0, 1);
-        Check.missing("new: person 0", () -> x.person(0, 0));
         Check.is("new: empty work", x.work(0), 0);
         Check.is("new: work counted", x.count(2), 1);
     }
 
-    private static void feeding() {
+    static void p02_feeding() {
         DyeStreets x = new DyeStreets();
         for (int k = 1; k <= 30; k++) {
             Check.is("feed", x.feed(0, 0, 0, 0, 0), 20 * k);
@@ -93,7 +47,7 @@ public final class PromisesTest {
         Check.is("a text over two feeds: place", x.fault(), 22);
     }
 
-    private static void cityTexts() {
+    static void p03_cityTexts() {
         Check.is("city", Check.city(new DyeStreets(), TOWN), 4);
         Check.is("no blanks", Check.city(new DyeStreets(), "street1 2 3 4;person0 60;stock2 200;river20;"), 1);
         Check.is("blanks all about",
@@ -110,11 +64,8 @@ public final class PromisesTest {
         Check.is("6 streets, 8 people", Check.city(new DyeStreets(), all), 8);
         DyeStreets y = new DyeStreets();
         Check.feed(y, TOWN);
-        Check.illegal("city -1", () -> y.city(-1));
-        Check.illegal("city 121", () -> y.city(121));
         Check.is("the tape stays", y.count(1), 120);
         Check.is("city behind wrong ones", y.city(TOWN.length()), 4);
-        Check.illegal("city 1 of none", () -> y.city(1));
         DyeStreets z = new DyeStreets();
         Check.feed(z, "river 7;rubbish");
         Check.is("first n bytes only", z.city(8), 0);
@@ -122,58 +73,7 @@ public final class PromisesTest {
         Check.is("the rest is gone", z.count(1), 0);
     }
 
-    private static void cityFault(String text, int kind, int place) {
-        DyeStreets x = Check.of(TOWN);
-        Check.work(x, "dip 0 0;dip 0 1;dip 0 1;dip 0 1;");
-        Check.is("refused: " + text, x.told(7), 1);
-        Check.is("city: " + text, Check.city(x, text), kind - 10);
-        Check.is("place: " + text, x.fault(), place);
-        Check.is("all stays: " + text, x.person(0, 2), 382);
-        Check.is("all stays: " + text, x.told(7), 1);
-        Check.is("all stays: " + text, x.count(2), 1);
-        Check.is("tape is empty: " + text, x.count(1), 0);
-    }
-
-    private static void cityFaults() {
-        cityFault("x", 1, 0);
-        cityFault("  streets 1 1 1 1;", 1, 2);
-        cityFault("Street 1 1 1 1;", 1, 0);
-        cityFault("street", 1, 6);
-        cityFault("street 1 1 1   ", 1, 15);
-        cityFault("street 1 1 1 1", 1, 14);
-        cityFault("street 1 1 1 1  ", 1, 16);
-        cityFault("street 1 1 1;", 1, 12);
-        cityFault("street 1 1 1 1 1;", 1, 15);
-        cityFault("street 1,1 1 1;", 1, 8);
-        cityFault("street -1 1 1 1;", 1, 7);
-        cityFault("street 10 1 1 1;", 2, 7);
-        cityFault("street 1 10 1 1;", 2, 9);
-        cityFault("street 1 1 10 1;", 2, 11);
-        cityFault("street 1 1 1 10;", 2, 13);
-        cityFault("street 99999999999999999999 1 1 1;", 2, 7);
-        cityFault("street 4294967296 1 1 1;", 2, 7);
-        cityFault("person 0 1;street 1 1 1 1;", 2, 7);
-        cityFault("street 1 1 1 1;person 1 1;", 2, 22);
-        cityFault("street 1 1 1 1;person 0 61;", 2, 24);
-        cityFault("stock 3 1;", 2, 6);
-        cityFault("stock 0 201;", 2, 8);
-        cityFault("river 21;", 2, 6);
-        cityFault(";", 1, 0);
-        cityFault("river 1;;", 1, 8);
-        cityFault("river 1;river", 1, 13);
-        cityFault("river 1;rive", 1, 8);
-        cityFault("river 1 river 2;", 1, 8);
-        cityFault("riverriver 1;", 1, 0);
-        cityFault("river\t1;", 1, 5);
-        cityFault("river 1; 4", 1, 9);
-        cityFault("street 1 1 1 1;".repeat(6) + " street 77", 3, 91);
-        cityFault("street 1 1 1 1;" + "person 0 1;".repeat(8) + "person", 3, 103);
-        cityFault("river 5;".repeat(60) + " stock 9", 3, 481);
-        cityFault("river 5;".repeat(60) + " stocks 9", 1, 481);
-        cityFault("river 5;".repeat(60) + "9", 1, 480);
-    }
-
-    private static void cityStarts() {
+    static void p03_cityStarts() {
         DyeStreets x = Check.of(TOWN);
         Check.law(x, "1");
         Check.book(x, "0 1;");
@@ -213,7 +113,7 @@ public final class PromisesTest {
         Check.is("at least " + worth + ": " + law, x.would(123, 40, 5, 6, 7, 1) ? 1 : 0, 1);
     }
 
-    private static void lawTexts() {
+    static void p04_lawTexts() {
         lawWorth("7", 7);
         lawWorth("999", 999);
         lawWorth("000999", 999);
@@ -240,81 +140,9 @@ public final class PromisesTest {
         lawWorth("(most[(least[(most[5,4]),7]),1])", 5);
         lawWorth("(((1)))+(((2)))+(((3)))+(((4)))", 10);
         lawWorth("999*999*999/999/999", 999);
-        wrapping();
     }
 
-    private static void wrapping() {
-        DyeStreets x = new DyeStreets();
-        Check.law(x, "256*256*256*128");
-        Check.is("2 to 31 wraps", x.would(0, 0, 0, 0, 0, 0) ? 1 : 0, 0);
-        Check.law(x, "256*256*256*128-1");
-        Check.is("2 to 31 less 1", x.would(0, 0, 0, 0, 0, 0) ? 1 : 0, 1);
-        Check.law(x, "(256*256*256*128)/(0-1)");
-        Check.is("the least by -1", x.would(0, 0, 0, 0, 0, 0) ? 1 : 0, 0);
-        Check.law(x, "256*256*256*256");
-        Check.is("2 to 32 is 0", x.would(0, 0, 0, 0, 0, 0) ? 1 : 0, 0);
-    }
-
-    private static void lawFault(String text, int kind, int place) {
-        DyeStreets x = Check.of(TOWN);
-        Check.law(x, "age-29");
-        Check.is("law: " + text, Check.law(x, text), kind - 10);
-        Check.is("place: " + text, x.fault(), place);
-        Check.is("the law stays: " + text, x.told(3), 1);
-        Check.is("tape is empty: " + text, x.count(1), 0);
-    }
-
-    private static void lawFaults() {
-        lawFault("", 1, 0);
-        lawFault("   ", 1, 3);
-        lawFault("1000", 2, 0);
-        lawFault("1+01000", 2, 2);
-        lawFault("dark+", 1, 5);
-        lawFault("dark + ", 1, 7);
-        lawFault("darks", 1, 0);
-        lawFault("darka", 1, 0);
-        lawFault("darkz", 1, 0);
-        lawFault("dar", 1, 0);
-        lawFault("dark`", 1, 4);
-        lawFault("dark{", 1, 4);
-        lawFault("1:", 1, 1);
-        lawFault("Dark", 1, 0);
-        lawFault("-1", 1, 0);
-        lawFault("1 2", 1, 2);
-        lawFault("1dark", 1, 1);
-        lawFault("dark1", 1, 4);
-        lawFault("1;", 1, 1);
-        lawFault("(1", 1, 2);
-        lawFault("(1;", 1, 2);
-        lawFault("1)", 1, 1);
-        lawFault("()", 1, 1);
-        lawFault("least", 1, 5);
-        lawFault("least(1,2)", 1, 5);
-        lawFault("least[1]", 1, 7);
-        lawFault("least[1,2", 1, 9);
-        lawFault("least[1,2,3]", 1, 9);
-        lawFault("least[1 2]", 1, 8);
-        lawFault("most[1000,1001]", 2, 5);
-        lawFault("1++2", 1, 2);
-        lawFault("1+*2", 1, 2);
-        lawFault("(((((((1", 3, 6);
-        lawFault("((((((least 1", 3, 6);
-        lawFault("((((((most[1,2]))))))", 3, 6);
-        lawFault("((((((leasts", 1, 6);
-        lawFault("least[1,least[1,least[1,least[1,least[1,least[1,(1)]]]]]]", 3, 48);
-        lawFault("most[(least[(most[( (", 3, 20);
-        DyeStreets x = Check.of(TOWN);
-        Check.is("law of 150", Check.law(x, "1".repeat(0) + " ".repeat(149) + "1"), 1);
-        Check.feed(x, " ".repeat(150) + "1");
-        Check.illegal("law 151", () -> x.law(151));
-        Check.illegal("law -1", () -> x.law(-1));
-        Check.is("the tape stays", x.count(1), 160);
-        Check.is("law 150 of blanks", x.law(150), -9);
-        Check.is("at the length", x.fault(), 150);
-        Check.illegal("law 1 of none", () -> x.law(1));
-    }
-
-    private static void lawFacts() {
+    static void p04_lawFacts() {
         lawWorth("madder", 1);
         lawWorth("indigo", 2);
         lawWorth("weld", 3);
@@ -348,67 +176,18 @@ public final class PromisesTest {
 
     // ---- 5
 
-    private static void workTexts() {
+    static void p05_workTexts() {
         DyeStreets x = Check.of(TOWN);
         Check.is("work", Check.work(x, "dip0 0;salt 0 ; year ;rain;"), 4);
         Check.is("work of blanks", Check.work(x, "   "), 0);
         Check.is("empty work", Check.work(x, ""), 0);
         Check.is("works", x.count(2), 3);
         Check.feed(x, " ".repeat(152));
-        Check.illegal("work 151", () -> x.work(151));
-        Check.illegal("work -1", () -> x.work(-1));
         Check.is("tape stays", x.count(1), 160);
         Check.is("work 150", x.work(150), 0);
-        Check.illegal("work 1 of none", () -> x.work(1));
     }
 
-    private static void workFault(String text, int kind, int place) {
-        DyeStreets x = Check.of(TOWN);
-        Check.work(x, "wash 0;dip 0 0;");
-        Check.is("work: " + text, Check.work(x, text), kind - 10);
-        Check.is("place: " + text, x.fault(), place);
-        Check.is("none is done: " + text, x.told(2), 0);
-        Check.is("works: " + text, x.count(2), 1);
-        Check.is("refused stays: " + text, x.told(7), 1);
-        Check.is("tape is empty: " + text, x.count(1), 0);
-    }
-
-    private static void workFaults() {
-        workFault("year;years;", 1, 5);
-        workFault("year", 1, 4);
-        workFault("year;;", 1, 5);
-        workFault("year;]", 1, 5);
-        workFault("year;dip 4 0;", 2, 9);
-        workFault("year;dip 0 3;", 2, 11);
-        workFault("year;dip 0;", 1, 10);
-        workFault("year;dip 0 0 0;", 1, 13);
-        workFault("year;wash 4;", 2, 10);
-        workFault("year;salt 9;", 2, 10);
-        workFault("year;wash;", 1, 9);
-        workFault("year;rain 0;", 1, 10);
-        workFault("year;marry 1 1;", 2, 13);
-        workFault("year;marry 01 001;", 2, 14);
-        workFault("year;marry 1 4;", 2, 13);
-        workFault("year;marry 4 4;", 2, 11);
-        workFault("year;marry 1;", 1, 12);
-        workFault("year;again 61 [ ];", 2, 11);
-        workFault("year;again [ ];", 1, 11);
-        workFault("year;again 2 year;", 1, 13);
-        workFault("year;again 2 [ year; ", 1, 21);
-        workFault("year;again 2 [ year ];", 1, 20);
-        workFault("year;again 2 [ year; ]", 1, 22);
-        workFault("year;again 2 [ year; ] year;", 1, 23);
-        workFault("year;again 2 [ year; ]; ];", 1, 24);
-        workFault("again 1[".repeat(6) + "  again 1[", 3, 50);
-        workFault("again 1[".repeat(6) + "agains 1[", 1, 48);
-        workFault("again 1[".repeat(6) + "wash 0;];again 1[again 1[", 3, 65);
-        DyeStreets x = new DyeStreets();
-        Check.is("no people", Check.work(x, "wash 0;"), -8);
-        Check.is("rain over nobody", Check.work(x, "rain;year;rain;"), 1);
-        Check.is("rain over nobody: refused", x.told(7), 2);
-    }
-
-    private static void workSteps() {
+    static void p05_workSteps() {
         DyeStreets x = Check.of(TOWN);
         Check.is("dips", Check.work(x, "dip 0 0;dip 0 0;dip 0 0;dip 0 0;dip 1 2;"), 4);
         Check.is("9 at most", x.person(0, 2), 900);
@@ -424,15 +203,9 @@ public final class PromisesTest {
         Check.is("less in stock: refused", x.told(7), 1);
         Check.is("just as much", Check.work(x, "dip 2 2;dip 3 2;"), 1);
         Check.is("just as much: left", x.stock(1), 1);
-        lacking();
-        washing();
-        salting();
-        raining();
-        marrying();
-        fading();
     }
 
-    private static void lacking() {
+    static void p05_lacking() {
         String city = "street 4 0 0 0;street 0 4 0 0;street 0 0 4 0;person 0 1;stock %d 3;";
         for (int dye = 0; dye < 3; dye++) {
             DyeStreets x = Check.of(city.replace("%d", String.valueOf(dye)));
@@ -445,7 +218,7 @@ public final class PromisesTest {
         }
     }
 
-    private static void washing() {
+    static void p05_washing() {
         DyeStreets y = Check.of("street 3 4 5 0;person 0 1;");
         Check.is("wash once", Check.work(y, "dip 0 0;wash 0;"), 2);
         Check.is("wash once: shade", y.person(0, 2), 234);
@@ -459,7 +232,7 @@ public final class PromisesTest {
         Check.is("refused", x.told(7), 1);
     }
 
-    private static void salting() {
+    static void p05_salting() {
         DyeStreets x = Check.of(TOWN);
         Check.is("salt", Check.work(x, "salt 0;salt 0;salt 1;"), 2);
         Check.is("salted", x.told(5), 2);
@@ -467,7 +240,7 @@ public final class PromisesTest {
         Check.is("a salted one can be dipped", Check.work(x, "dip 0 0;"), 1);
     }
 
-    private static void raining() {
+    static void p05_raining() {
         DyeStreets x = Check.of(TOWN);
         Check.is("rain on whites", Check.work(x, "rain;"), 1);
         Check.work(x, "dip 0 0;dip 1 1;dip 2 2;salt 0;rain;");
@@ -482,7 +255,7 @@ public final class PromisesTest {
         Check.is("cousins of one", x.cousins(), -1);
     }
 
-    private static void marrying() {
+    static void p05_marrying() {
         DyeStreets x = Check.of(TOWN);
         Check.is("marry", Check.work(x, "marry 0 1;marry 1 2;marry 2 0;marry 3 2;"), 2);
         Check.is("married", x.person(0, 5) * 100 + x.person(1, 5) * 10 + x.person(2, 5), 103);
@@ -493,7 +266,7 @@ public final class PromisesTest {
         Check.is("distance 6: married", y.told(4), 2);
     }
 
-    private static void fading() {
+    static void p05_fading() {
         DyeStreets x = Check.of(TOWN);
         Check.work(x, "dip 0 2;dip 1 2;salt 1;year;");
         Check.is("madder fades in year 0", x.person(0, 2), 122);
@@ -521,7 +294,7 @@ public final class PromisesTest {
         Check.is("age in year 300", y.person(0, 1), 360);
     }
 
-    private static void workLoops() {
+    static void p05_workLoops() {
         DyeStreets x = Check.of(TOWN);
         Check.is("again 0", Check.work(x, "again 0[year;];year;"), 1);
         Check.is("again in again", Check.work(x, "again 2[year;again 3[salt 0;wash 0;year;];];"), 14);
@@ -535,7 +308,7 @@ public final class PromisesTest {
         Check.is("an again of 0 is passed by", Check.work(x, "again 0[again 3[year;];year;];salt 2;"), 1);
     }
 
-    private static void workLimit() {
+    static void p05_workLimit() {
         DyeStreets x = new DyeStreets();
         Check.is("199 and the again", Check.work(x, "again 60[year;year;year;year;];"), 199);
         Check.is("199 years", x.told(2), 199);
@@ -552,16 +325,7 @@ public final class PromisesTest {
 
     // ---- 6 and 7
 
-    private static void bookFault(String text, int kind, int place) {
-        DyeStreets x = Check.of(TOWN);
-        Check.book(x, "1 4;0 3;");
-        Check.is("book: " + text, Check.book(x, text), kind - 10);
-        Check.is("place: " + text, x.fault(), place);
-        Check.is("the book stays: " + text, x.told(6), 2);
-        Check.is("tape is empty: " + text, x.count(1), 0);
-    }
-
-    private static void bookTexts() {
+    static void p06_bookTexts() {
         DyeStreets x = Check.of(TOWN);
         Check.is("book", Check.book(x, " 2 9 ; 0 0;1 5; "), 3);
         Check.is("lines", x.told(6), 3);
@@ -569,28 +333,12 @@ public final class PromisesTest {
         Check.is("no lines", x.told(6), 0);
         Check.is("an empty book: all fit", x.fits(0), 6);
         Check.is("digits close together", Check.book(x, "00 009;"), 1);
-        bookFault("0", 1, 1);
-        bookFault("0 1", 1, 3);
-        bookFault("0;", 1, 1);
-        bookFault("01;", 1, 2);
-        bookFault("a 1;", 1, 0);
-        bookFault(";", 1, 0);
-        bookFault("0 1;;", 1, 4);
-        bookFault("3 1;", 2, 0);
-        bookFault("0 10;", 2, 2);
-        bookFault("0 1; 0 1;", 2, 5);
-        bookFault("0 1;1 2;2 3; 1 1;", 2, 13);
-        bookFault("0 1;1 2;2 3; 3 1;", 2, 13);
-        bookFault("0 1;1 2;2 3; x 1;", 1, 13);
         Check.feed(x, " ".repeat(61));
-        Check.illegal("book 61", () -> x.book(61));
-        Check.illegal("book -1", () -> x.book(-1));
         Check.is("the tape stays", x.count(1), 80);
         Check.is("book 60", x.book(60), 0);
-        Check.illegal("book 1 of none", () -> x.book(1));
     }
 
-    private static void faultPlaces() {
+    static void p07_faultPlaces() {
         DyeStreets x = Check.of(TOWN);
         Check.is("no fault", x.fault(), -1);
         Check.work(x, "year;yeer;");
@@ -615,7 +363,7 @@ public final class PromisesTest {
 
     // ---- 8 and 9
 
-    private static void undoing() {
+    static void p08_undoing() {
         DyeStreets x = Check.of(TOWN);
         Check.is("nothing to undo", x.undo(), -1);
         Check.work(x, "dip 0 0;salt 1;marry 2 3;");
@@ -654,7 +402,7 @@ public final class PromisesTest {
         Check.is("a 16th again", Check.work(x, "rain;"), 1);
     }
 
-    private static void telling() {
+    static void p09_telling() {
         DyeStreets x = Check.of(TOWN);
         Check.work(x, "dip 0 0;dip 1 1;dip 2 2;salt 1;salt 3;marry 3 0;wash 3;year;salt 3;dip 0 0;");
         Check.book(x, "0 1;2 2;");
@@ -665,13 +413,11 @@ public final class PromisesTest {
         }
         Check.work(x, "rain;");
         Check.is("unlike shades", x.told(8), 2);
-        Check.illegal("told -1", () -> x.told(-1));
-        Check.illegal("told 10", () -> x.told(10));
     }
 
     // ---- 10 to 17
 
-    private static void streets() {
+    static void p10_streets() {
         DyeStreets x = Check.of(TOWN);
         Check.work(x, "dip 0 1;dip 1 2;");
         int[][] due = {{300, 5, 2, 1}, {41, 7, 1, 2}, {222, 2, 1, 1}};
@@ -680,14 +426,9 @@ public final class PromisesTest {
                 Check.is("street " + s + ", " + what, x.street(s, what), due[s][what]);
             }
         }
-        Check.illegal("street 0, 4", () -> x.street(0, 4));
-        Check.illegal("street 0, -1", () -> x.street(0, -1));
-        Check.missing("street 3", () -> x.street(3, 0));
-        Check.missing("street -1", () -> x.street(-1, 0));
-        Check.missing("street 3, 4", () -> x.street(3, 4));
     }
 
-    private static void people() {
+    static void p11_people() {
         DyeStreets x = Check.of(TOWN);
         Check.work(x, "dip 0 1;dip 0 0;dip 1 2;salt 2;marry 2 3;");
         Check.law(x, "dips");
@@ -698,24 +439,17 @@ public final class PromisesTest {
                 Check.is("person " + p + ", " + what, x.person(p, what), due[p][what]);
             }
         }
-        Check.illegal("person 0, 8", () -> x.person(0, 8));
-        Check.illegal("person 0, -1", () -> x.person(0, -1));
-        Check.missing("person 4", () -> x.person(4, 0));
-        Check.missing("person -1", () -> x.person(-1, 0));
-        Check.missing("person 4, 8", () -> x.person(4, 8));
     }
 
-    private static void stocks() {
+    static void p12_stocks() {
         DyeStreets x = Check.of(TOWN);
         Check.work(x, "dip 0 1;");
         Check.is("stock 0", x.stock(0), 50);
         Check.is("stock 1", x.stock(1), 5);
         Check.is("stock 2", x.stock(2), 49);
-        Check.missing("stock 3", () -> x.stock(3));
-        Check.missing("stock -1", () -> x.stock(-1));
     }
 
-    private static void woulds() {
+    static void p13_woulds() {
         DyeStreets x = Check.of(TOWN);
         Check.law(x, "age-399+least[0,rank]+most[0,0-dips]");
         Check.is("would, age 400", x.would(0, 400, 9, 99, 300, 1) ? 1 : 0, 1);
@@ -725,56 +459,33 @@ public final class PromisesTest {
         Check.law(x, "(dips-98)*(year-299)*birth");
         Check.is("dips 99, year 300, birth", x.would(0, 0, 0, 99, 300, 1) ? 1 : 0, 1);
         Check.is("not by birth", x.would(0, 0, 0, 99, 300, 0) ? 1 : 0, 0);
-        Check.illegal("shade 1000", () -> x.would(1000, 0, 0, 0, 0, 0) ? 1 : 0);
-        Check.illegal("shade -1", () -> x.would(-1, 0, 0, 0, 0, 0) ? 1 : 0);
-        Check.illegal("age 401", () -> x.would(0, 401, 0, 0, 0, 0) ? 1 : 0);
-        Check.illegal("age -1", () -> x.would(0, -1, 0, 0, 0, 0) ? 1 : 0);
-        Check.illegal("rank 10", () -> x.would(0, 0, 10, 0, 0, 0) ? 1 : 0);
-        Check.illegal("rank -1", () -> x.would(0, 0, -1, 0, 0, 0) ? 1 : 0);
-        Check.illegal("dips 100", () -> x.would(0, 0, 0, 100, 0, 0) ? 1 : 0);
-        Check.illegal("dips -1", () -> x.would(0, 0, 0, -1, 0, 0) ? 1 : 0);
-        Check.illegal("year 301", () -> x.would(0, 0, 0, 0, 301, 0) ? 1 : 0);
-        Check.illegal("year -1", () -> x.would(0, 0, 0, 0, -1, 0) ? 1 : 0);
-        Check.illegal("birth 2", () -> x.would(0, 0, 0, 0, 0, 2) ? 1 : 0);
-        Check.illegal("birth -1", () -> x.would(0, 0, 0, 0, 0, -1) ? 1 : 0);
     }
 
-    private static void distances() {
+    static void p14_distances() {
         DyeStreets x = new DyeStreets();
         Check.is("distance", x.distance(123, 321), 4);
         Check.is("distance of alike ones", x.distance(457, 457), 0);
         Check.is("distance 27", x.distance(0, 999), 27);
         Check.is("distance of indigo", x.distance(90, 0), 9);
-        Check.illegal("distance -1", () -> x.distance(-1, 0));
-        Check.illegal("distance 1000", () -> x.distance(1000, 0));
-        Check.illegal("distance, other -1", () -> x.distance(0, -1));
-        Check.illegal("distance, other 1000", () -> x.distance(0, 1000));
     }
 
-    private static void seemings() {
+    static void p15_seemings() {
         DyeStreets x = Check.of("street 5 0 0 0;street 0 5 0 0;street 0 5 0 9;");
         Check.is("seems 0", x.seems(0), 0);
         Check.is("seems 1", x.seems(10), 1);
         Check.is("of alike ones the first", x.seems(550), 0);
         Check.is("of alike vats the first", x.seems(50), 1);
         Check.is("seems 999", x.seems(999), 0);
-        Check.illegal("seems -1", () -> x.seems(-1));
-        Check.illegal("seems 1000", () -> x.seems(1000));
     }
 
-    private static void dippings() {
+    static void p16_dippings() {
         DyeStreets x = Check.of("street 5 0 3 0;street 0 0 0 0;stock 0 0;");
         Check.is("dipped, stocks not asked", x.dipped(111, 0), 614);
         Check.is("dipped, 9 at most", x.dipped(578, 0), 979);
         Check.is("dipped in nothing", x.dipped(578, 1), 578);
-        Check.missing("dipped 2", () -> x.dipped(0, 2));
-        Check.missing("dipped -1", () -> x.dipped(0, -1));
-        Check.missing("dipped 1000, 2", () -> x.dipped(1000, 2));
-        Check.illegal("dipped 1000", () -> x.dipped(1000, 1));
-        Check.illegal("dipped -1, 0", () -> x.dipped(-1, 0));
     }
 
-    private static void cousins() {
+    static void p17_cousins() {
         DyeStreets x = Check.of(TOWN);
         Check.work(x, "dip 0 0;dip 0 0;dip 1 1;dip 2 2;dip 2 0;");
         Check.is("cousins", x.cousins(), 210);
@@ -788,7 +499,7 @@ public final class PromisesTest {
 
     // ---- 18 and 19
 
-    private static void whens() {
+    static void p18_whens() {
         DyeStreets x = Check.of(TOWN);
         Check.work(x, "dip 0 0;dip 0 1;salt 0;dip 1 2;");
         Check.law(x, "dark-5");
@@ -809,10 +520,6 @@ public final class PromisesTest {
         Check.law(x, "61-year");
         Check.is("not until year 61", x.when(0, 0), -1);
         Check.is("nothing stays changed", x.told(2), 0);
-        Check.missing("when 4", () -> x.when(4, 0));
-        Check.missing("when -1, 5", () -> x.when(-1, 5));
-        Check.illegal("when how 2", () -> x.when(0, 2));
-        Check.illegal("when how -1", () -> x.when(0, -1));
         for (int k = 0; k < 2; k++) {
             Check.work(x, "again 60[year;year;];again 29[year;];");
         }
@@ -821,7 +528,7 @@ public final class PromisesTest {
         Check.is("years beyond 300", x.when(0, 1), 53);
     }
 
-    private static void sittings() {
+    static void p19_sittings() {
         DyeStreets x = Check.of(TOWN);
         Check.work(x, "dip 0 0;dip 0 1;dip 1 2;salt 1;");
         Check.law(x, "dark-5");
@@ -834,10 +541,6 @@ public final class PromisesTest {
         Check.law(x, "year/2*2-year+1");
         Check.is("sits each second year", x.sits(3, 6), 21);
         Check.is("nothing stays changed", x.told(2), 0);
-        Check.missing("sits 4", () -> x.sits(4, 0));
-        Check.missing("sits -1, 99", () -> x.sits(-1, 99));
-        Check.illegal("sits 31", () -> x.sits(0, 31));
-        Check.illegal("sits -1", () -> x.sits(0, -1));
     }
 
     // ---- 20 to 23
@@ -851,7 +554,7 @@ public final class PromisesTest {
         Check.is(name + ", behind", x.step(shade, other, due.length), -1);
     }
 
-    private static void ways() {
+    static void p20_ways() {
         DyeStreets x = Check.of("street 0 0 0 0;street 1 0 0 0;street 3 0 0 0;street 2 0 0 0;"
                 + "street 3 0 0 0;street 0 2 2 0;stock 0 0;");
         wayIs(x, 0, 0);
@@ -865,21 +568,21 @@ public final class PromisesTest {
         wayIs(Check.of("street 2 0 0 0;street 1 0 0 0;"), 0, 500, 0, 0, 1);
         wayIs(Check.of("street 9 0 0 0;street 4 4 0 0;street 0 9 0 0;"), 0, 990, 0, 2);
         Check.is("no way down", x.way(100, 0), -1);
-        Check.is("no way down: step", x.step(100, 0, 0), -1);
         Check.is("no way", x.way(0, 10), -1);
-        Check.is("no way: step", x.step(0, 10, 0), -1);
-        Check.is("a step far off", x.step(0, 500, Integer.MAX_VALUE), -1);
-        Check.illegal("way -1", () -> x.way(-1, 0));
-        Check.illegal("way 1000", () -> x.way(1000, 0));
-        Check.illegal("way to -1", () -> x.way(0, -1));
-        Check.illegal("way to 1000", () -> x.way(0, 1000));
-        Check.illegal("step of -1", () -> x.step(-1, 0, 0));
-        Check.illegal("step to 1000", () -> x.step(0, 1000, 0));
-        Check.illegal("step -1", () -> x.step(0, 500, -1));
-        Check.is("no streets", new DyeStreets().way(5, 6), -1);
     }
 
-    private static void sums() {
+    static void p21_steps() {
+        DyeStreets x = Check.of("street 0 2 0 0;street 3 0 0 0;street 1 1 0 0;");
+        Check.is("520: 1 and 2 and 2 in any order", x.way(0, 520), 3);
+        Check.is("520: first", x.step(0, 520, 0), 1);
+        Check.is("520: second", x.step(0, 520, 1), 2);
+        Check.is("520: third", x.step(0, 520, 2), 2);
+        Check.is("520: no fourth", x.step(0, 520, 3), -1);
+        Check.is("no way down", x.step(100, 0, 0), -1);
+        Check.is("no way", x.step(0, 1, 0), -1);
+    }
+
+    static void p22_sums() {
         DyeStreets x = Check.of("street 0 0 0 0;street 1 0 0 0;street 3 0 0 0;street 2 0 0 0;"
                 + "street 3 0 0 0;street 0 5 5 0;stock 0 0;");
         Check.is("sums of white", x.sums(0, 0), 1);
@@ -905,26 +608,20 @@ public final class PromisesTest {
         DyeStreets y = Check.of("street 1 1 1 0;".repeat(6));
         Check.is("six alike vats", y.sums(999, 0), 2002);
         Check.is("six alike vats: fewest", y.sums(999, 1), 9);
-        Check.illegal("sums -1", () -> x.sums(-1, 0));
-        Check.illegal("sums 1000", () -> x.sums(1000, 0));
-        Check.illegal("sums, 2", () -> x.sums(0, 2));
-        Check.illegal("sums, -1", () -> x.sums(0, -1));
     }
 
-    private static void tones() {
+    static void p23_tones() {
         DyeStreets x = Check.of("street 4 0 0 0;street 0 5 0 0;street 0 0 0 0;");
         Check.is("tones 0: 0 4 8 9 by 0 5 9", x.tones(0), 12);
         Check.is("tones 999", x.tones(999), 1);
         Check.is("tones 985", x.tones(985), 2);
         Check.is("all tones", Check.of("street 1 0 0 0;street 0 1 0 0;street 0 0 1 0;").tones(0), 1000);
         Check.is("tones without streets", new DyeStreets().tones(5), 1);
-        Check.illegal("tones -1", () -> x.tones(-1));
-        Check.illegal("tones 1000", () -> x.tones(1000));
     }
 
     // ---- 24 to 27
 
-    private static void fits() {
+    static void p24_fits() {
         DyeStreets x = Check.of(TOWN);
         Check.work(x, "dip 0 0;dip 1 1;dip 2 2;");
         Check.is("no book: all fit", x.fits(0), 6);
@@ -941,11 +638,9 @@ public final class PromisesTest {
         Check.book(x, "2 9;");
         Check.is("none fits", x.fits(0), 0);
         Check.is("none fits: first", x.fits(1), -1);
-        Check.illegal("fits 2", () -> x.fits(2));
-        Check.illegal("fits -1", () -> x.fits(-1));
     }
 
-    private static void looks() {
+    static void p25_looks() {
         DyeStreets x = Check.of(TOWN);
         Check.work(x, "dip 0 0;dip 1 1;dip 2 2;");
         Check.is("look: 5 by madder, 5 by indigo, 5 by weld", x.look(0), 0);
@@ -973,11 +668,9 @@ public final class PromisesTest {
         Check.is("left by 9", z.look(1), 3);
         Check.book(z, "2 8;");
         Check.is("left by 9 or 0", z.look(1), 2);
-        Check.illegal("look 2", () -> x.look(2));
-        Check.illegal("look -1", () -> x.look(-1));
     }
 
-    private static void matches() {
+    static void p26_matches() {
         DyeStreets x = Check.of(TOWN);
         Check.is("all white: two pairs", x.match(0), 2);
         Check.is("all white: 0", x.match(1), 0);
@@ -1005,15 +698,10 @@ public final class PromisesTest {
         Check.is("distance 7", y.match(0), 0);
         Check.is("distance 7: together", y.match(1), 0);
         Check.is("distance 7: none", y.bride(3), -1);
-        more();
-        Check.illegal("match 2", () -> x.match(2));
-        Check.illegal("match -1", () -> x.match(-1));
-        Check.missing("bride 4", () -> x.bride(4));
-        Check.missing("bride -1", () -> x.bride(-1));
     }
 
     /** Most pairs go ahead of little distance. */
-    private static void more() {
+    static void p27_brides() {
         DyeStreets x = Check.of("street 3 0 0 0;street 0 6 0 0;street 0 0 6 0;"
                 + "person 0 1;person 1 1;person 0 1;person 1 1;");
         Check.work(x, "dip 0 0;dip 1 0;dip 2 0;dip 3 0;dip 2 1;dip 3 2;");
@@ -1033,7 +721,7 @@ public final class PromisesTest {
 
     // ---- 28 to 30
 
-    private static void enoughs() {
+    static void p28_enoughs() {
         DyeStreets x = Check.of(TOWN);
         Check.is("none", x.enough(0), 0);
         Check.is("all now", x.enough(7), 0);
@@ -1042,21 +730,17 @@ public final class PromisesTest {
         Check.is("indigo 1 for 6", x.enough(6), 3);
         Check.is("indigo 1 for 2", x.enough(4), 1);
         Check.is("madder alone", x.enough(1), 0);
-        Check.illegal("enough -1", () -> x.enough(-1));
-        Check.illegal("enough 8", () -> x.enough(8));
         Check.is("six streets", Check.of("street 9 9 9 0;".repeat(6)).enough(63), 1);
         DyeStreets y = Check.of("street 9 9 9 0;".repeat(6) + "stock 1 0;river 0;");
         Check.is("no river", y.enough(32), -1);
         Check.is("no madder", Check.of("street 1 0 0 0;stock 0 0;river 0;").enough(1), -1);
         Check.is("no weld", Check.of("street 0 0 1 0;stock 2 0;river 0;").enough(1), -1);
-        Check.illegal("enough 64", () -> y.enough(64));
         DyeStreets z = Check.of("street 0 0 1 0;stock 2 0;river 1;");
         Check.is("in a year", z.enough(1), 1);
         Check.is("nothing stays changed", z.stock(2), 0);
-        Check.illegal("no streets", () -> new DyeStreets().enough(1));
     }
 
-    private static void levels() {
+    static void p29_levels() {
         DyeStreets x = Check.of("stock 0 200;stock 1 0;stock 2 17;");
         Check.is("9 at most", x.level(0, 1), 9);
         Check.is("200 by 22", x.level(0, 22), 9);
@@ -1066,13 +750,9 @@ public final class PromisesTest {
         Check.is("17 by 2", x.level(2, 2), 8);
         Check.is("17 by 17", x.level(2, 17), 1);
         Check.is("17 by 18", x.level(2, 18), 0);
-        Check.missing("level 3", () -> x.level(3, 0));
-        Check.missing("level -1", () -> x.level(-1, 1));
-        Check.illegal("level 0", () -> x.level(0, 0));
-        Check.illegal("level 100", () -> x.level(0, 100));
     }
 
-    private static void nights() {
+    static void p30_nights() {
         DyeStreets x = new DyeStreets();
         long[][] due = {{1, 0, 0, 1}, {1, 16, 1, 1}, {1, 1, 1, 16}, {1, 12, 3, 4}, {3, 8, 1, 2},
             {3, 1, 23, 2048}, {5, 4, 53, 512}, {9, 8, 1, 2}, {9, 0, 0, 1}, {9, 16, 1, 1},
@@ -1083,19 +763,11 @@ public final class PromisesTest {
             Check.is("night " + n + ", " + q + ": above", x.night(n, q, 0), one[2]);
             Check.is("night " + n + ", " + q + ": below", x.night(n, q, 1), one[3]);
         }
-        Check.illegal("night 0", () -> x.night(0, 8, 0));
-        Check.illegal("night 2", () -> x.night(2, 8, 0));
-        Check.illegal("night -1", () -> x.night(-1, 8, 0));
-        Check.illegal("night 11", () -> x.night(11, 8, 0));
-        Check.illegal("night q 17", () -> x.night(1, 17, 0));
-        Check.illegal("night q -1", () -> x.night(1, -1, 0));
-        Check.illegal("night part 2", () -> x.night(1, 8, 2));
-        Check.illegal("night part -1", () -> x.night(1, 8, -1));
     }
 
     // ---- 31 to 35
 
-    private static void guilds() {
+    static void p32_follows() {
         DyeStreets x = Check.of(TOWN);
         Check.work(x, "dip 0 0;dip 1 1;dip 2 2;");
         Check.is("300 goes with 300, 0 as well", x.follows(0, 1), 2);
@@ -1103,10 +775,9 @@ public final class PromisesTest {
         Check.is("222 is nearer to 222", x.follows(2, 1), 2);
         Check.is("0 and 41 are nearer to 41", x.follows(1, 2), 2);
         Check.is("alike distances go with neither", x.follows(0, 0), 0);
-        Check.missing("follows 3, 0", () -> x.follows(3, 0));
-        Check.missing("follows 0, 3", () -> x.follows(0, 3));
-        Check.missing("follows -1, 0", () -> x.follows(-1, 0));
-        Check.missing("follows 0, -1", () -> x.follows(0, -1));
+    }
+
+    static void p31_guilds() {
         DyeStreets y = Check.of("street 1 0 0 0;street 5 0 0 0;street 9 0 0 0;person 0 1;person 0 1;person 0 1;");
         Check.work(y, "dip 0 0;dip 1 1;dip 2 2;");
         Check.is("one in the middle", y.guilds(0), 4);
@@ -1133,11 +804,9 @@ public final class PromisesTest {
         Check.is("each its own", v.guilds(0), 2);
         Check.is("each its own: first", v.guilds(1), 1);
         Check.is("each its own: both", v.guilds(2), 2);
-        Check.illegal("guilds 3", () -> x.guilds(3));
-        Check.illegal("guilds -1", () -> x.guilds(-1));
     }
 
-    private static void aheads() {
+    static void p33_aheads() {
         DyeStreets x = Check.of(TOWN);
         Check.work(x, "dip 0 0;dip 1 1;dip 2 2;salt 2;");
         Check.law(x, "indigo-1");
@@ -1150,10 +819,6 @@ public final class PromisesTest {
         Check.is("100 years: dyes", x.ahead(100, 1), 0);
         Check.is("100 years: shades", x.ahead(100, 2), 1);
         Check.is("nothing stays changed", x.told(2) + x.person(2, 6), 1);
-        Check.illegal("ahead -1", () -> x.ahead(-1, 0));
-        Check.illegal("ahead 101", () -> x.ahead(101, 0));
-        Check.illegal("ahead, 3", () -> x.ahead(0, 3));
-        Check.illegal("ahead, -1", () -> x.ahead(0, -1));
         Check.is("nobody", new DyeStreets().ahead(5, 1), 0);
     }
 
@@ -1161,7 +826,7 @@ public final class PromisesTest {
      * Seed 1 draws 16838, 5758, 10113, 17515, 31051, 5627, 23010, 7419, 16212: the sky has 6, 11, 2;
      * 2 is dipped in 0, 3 in 2 and then in 0: 200 and 511 are left.
      */
-    private static void drawn() {
+    static void p34_drawn() {
         DyeStreets x = Check.of(TOWN);
         Check.is("three dips", x.ages(1, 0, 3, 1), 3);
         Check.is("three shades", x.ages(1, 2, 3, 3), 3);
@@ -1183,8 +848,7 @@ public final class PromisesTest {
         Check.is("no more in stock", z.ages(1, 16, 96, 1), 2);
     }
 
-    private static void ages() {
-        drawn();
+    static void p34_ages() {
         DyeStreets x = Check.of(TOWN);
         Check.is("a dip", x.ages(1, 0, 1, 1), 1);
         Check.is("no rain", x.ages(1, 0, 1, 2), 0);
@@ -1195,17 +859,11 @@ public final class PromisesTest {
         Check.is("nothing stays changed", x.told(2) + x.told(8), 1);
         Check.is("draws behind no rain", x.ages(1, 6, 1, 2), 0);
         Check.is("draws 6 below 7", x.ages(1, 7, 1, 2), 1);
-        Check.illegal("ages q 17", () -> x.ages(1, 17, 1, 0));
-        Check.illegal("ages q -1", () -> x.ages(1, -1, 1, 0));
-        Check.illegal("ages years 0", () -> x.ages(1, 0, 0, 0));
-        Check.illegal("ages years 97", () -> x.ages(1, 0, 97, 0));
-        Check.illegal("ages, 4", () -> x.ages(1, 0, 1, 4));
-        Check.illegal("ages, -1", () -> x.ages(1, 0, 1, -1));
         Check.is("any seed", x.ages(Integer.MIN_VALUE, 0, 1, 1), 1);
         Check.is("nobody", new DyeStreets().ages(5, 16, 96, 2), 0);
     }
 
-    private static void spans() {
+    static void p35_spans() {
         DyeStreets x = Check.of(TOWN);
         Check.law(x, "dips*(birth+1)-1");
         int fewest = 9;
@@ -1225,14 +883,6 @@ public final class PromisesTest {
         Check.is("seeds wrap", x.span(Integer.MAX_VALUE, 2, 0, 1, 1),
                 Math.max(x.ages(Integer.MAX_VALUE, 0, 1, 3), x.ages(Integer.MIN_VALUE, 0, 1, 3)));
         Check.is("nothing stays changed", x.told(2) + x.told(8), 1);
-        Check.illegal("span many 0", () -> x.span(1, 0, 0, 1, 0));
-        Check.illegal("span many 21", () -> x.span(1, 21, 0, 1, 0));
-        Check.illegal("span q 17", () -> x.span(1, 1, 17, 1, 0));
-        Check.illegal("span q -1", () -> x.span(1, 1, -1, 1, 0));
-        Check.illegal("span years 0", () -> x.span(1, 1, 0, 0, 0));
-        Check.illegal("span years 97", () -> x.span(1, 1, 0, 97, 0));
-        Check.illegal("span, 3", () -> x.span(1, 1, 0, 1, 3));
-        Check.illegal("span, -1", () -> x.span(1, 1, 0, 1, -1));
         Check.is("nobody: fewest", new DyeStreets().span(1, 20, 8, 96, 0), 0);
         Check.is("nobody: most", new DyeStreets().span(1, 20, 16, 96, 1), 0);
         Check.law(x, "0");
@@ -1250,7 +900,7 @@ public final class PromisesTest {
 
     // ---- 36 to 39
 
-    private static void worksOfImages() {
+    static void p37_worksOfImages() {
         DyeStreets x = Check.of(TOWN);
         Check.work(x, "dip 0 0;");
         Check.work(x, "dip 1 1;");
@@ -1273,8 +923,7 @@ public final class PromisesTest {
         Check.is("never in the image", x.person(3, 2), 0);
     }
 
-    private static void images() {
-        worksOfImages();
+    static void p36_images() {
         DyeStreets x = Check.of(TOWN);
         Check.is("nothing to restore", x.restore(), -1);
         Check.work(x, "dip 0 0;");
@@ -1313,7 +962,7 @@ public final class PromisesTest {
         Check.is("white", x.person(0, 2), 0);
     }
 
-    private static void statuses() {
+    static void p38_statuses() {
         DyeStreets x = new DyeStreets();
         Check.is("status 0", x.status(0), 0);
         Check.is("status 1", x.status(1), 0);
@@ -1334,7 +983,7 @@ public final class PromisesTest {
         Check.is("status -1", x.status(-1), -1);
     }
 
-    private static void counts() {
+    static void p39_counts() {
         DyeStreets x = new DyeStreets();
         for (int what = 0; what < 3; what++) {
             Check.is("count " + what, x.count(what), 0);

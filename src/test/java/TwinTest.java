@@ -110,7 +110,7 @@ public final class TwinTest {
             alike = both("feed", n);
         }
         log.add(name + " of \"" + text + "\"");
-        alike = alike && both(name, random.nextInt(40) == 0 ? number(-1, 620) : text.length()) && both("fault");
+        alike = alike && both(name, random.nextInt(40) == 0 ? near(-1, 620) : text.length()) && both("fault");
         return alike && both("told", 7) && both("told", 0) && both("told", 1) && know();
     }
 
@@ -249,7 +249,7 @@ public final class TwinTest {
 
     private int shade() {
         if (random.nextInt(60) == 0) {
-            return pick("a", "b").equals("a") ? -1 : 1000;
+            return beyond(0, 999);
         }
         if (random.nextInt(2) == 0 && people > 0 && x.count(1) == 0) {
             return x.person(random.nextInt(people), 2);
@@ -257,8 +257,14 @@ public final class TwinTest {
         return random.nextInt(1000);
     }
 
+    /** Mostly what may be; now and then what is just beyond it, or as far beyond as numbers go. */
     private int near(int from, int to) {
-        return random.nextInt(50) == 0 ? pick("a", "b").equals("a") ? from - 1 : to + 1 : number(from, to);
+        return random.nextInt(50) == 0 ? beyond(from, to) : number(from, to);
+    }
+
+    private int beyond(int from, int to) {
+        int[] all = {from - 1, to + 1, Integer.MIN_VALUE, Integer.MAX_VALUE};
+        return all[random.nextInt(all.length)];
     }
 
     private boolean ask() throws Exception {
