@@ -588,12 +588,12 @@ public final class DyeStreets {
     /** Of all the 16 to the n cases, those in which more than half of n are right. */
     private static long mostRight(int n, int q) {
         long cases = 0;
-        long ways = 1;
-        for (int right = 0; right <= n; right++) {
+        // the bits of who are the witnesses that are right
+        for (int who = 0; who < 1 << n; who++) {
+            int right = Integer.bitCount(who);
             if (2 * right > n) {
-                cases += ways * power(q, right) * power(16 - q, n - right);
+                cases += power(q, right) * power(16 - q, n - right);
             }
-            ways = ways * (n - right) / (right + 1);
         }
         return cases;
     }
@@ -1350,7 +1350,7 @@ public final class DyeStreets {
 
     /** Work as it was read: steps one behind the other, an again with where it ends. */
     private static final class Plan {
-        // the shortest step, rain; has five bytes, an again with its end nine
+        // the shortest step (rain;) has five bytes, an again with its end nine
         private static final int MOST_ENTRIES = WORK_BYTES / 4;
 
         private final int[] kinds = new int[MOST_ENTRIES];

@@ -152,7 +152,7 @@ public final class LanguageTest {
         }
         Matcher calls = Pattern.compile("\\b([A-Z]\\w*)\\.(\\w+)\\(").matcher(code);
         while (calls.find()) {
-            if (!Set.of("Math.min", "Math.max", "Math.abs").contains(calls.group(1) + "." + calls.group(2))) {
+            if (!Set.of("Math.min", "Math.max", "Math.abs", "Integer.bitCount").contains(calls.group(1) + "." + calls.group(2))) {
                 bad("library call " + calls.group());
             }
         }
@@ -168,6 +168,19 @@ public final class LanguageTest {
         while (index.find()) {
             if (!tested.contains(index.group()) && !index.group(1).equals("int")) {
                 bad("an index that is not known to be tested: " + index.group());
+            }
+        }
+        divisors(code);
+    }
+
+    /** A divisor is a written number, or stands in one of the lines that are known to test it. */
+    private static void divisors(String code) {
+        Set<String> tested = Set.of("shade += sum / many * unitOf(dye);", "int fading = year() % DYES;",
+                "default: return b == 0 ? 0 : a / b;", "return by > 0 ? (seed >>> 16 & 32767) % by : 0;");
+        for (String line : code.replace("'/'", "").split("\n")) {
+            Matcher m = Pattern.compile("[/%]=?+ *+(?![1-9])").matcher(line);
+            if (m.find() && !tested.contains(line.trim())) {
+                bad("a divisor that is not known to be tested: " + line.trim());
             }
         }
     }
